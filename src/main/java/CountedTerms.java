@@ -379,6 +379,14 @@ public final class CountedTerms {
                 numbers[place] = number;
             }
         }
+
+        /** Copies so many numbers from one place to another one, if all these places are there. */
+        void move(int from, int to, int many) {
+            int last = numbers.length - many;
+            if (many > 0 && from >= 0 && from <= last && to >= 0 && to <= last) {
+                System.arraycopy(numbers, from, numbers, to, many);
+            }
+        }
     }
 
     /** All terms of the object, each by its number. */
@@ -422,8 +430,11 @@ public final class CountedTerms {
 
         /** Appends the parts of another term from one place up to another one. */
         void appendParts(int term, int other, int from, int to) {
-            for (int place = from; place < to; place++) {
-                append(term, kind(other, place), number(other, place));
+            int length = lengths.get(term);
+            int many = to - from;
+            if (many > 0 && length + many <= MOST_PARTS) {
+                parts.move(other * MOST_PARTS + from, term * MOST_PARTS + length, many);
+                lengths.set(term, length + many);
             }
         }
 

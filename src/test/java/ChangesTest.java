@@ -205,6 +205,10 @@ public final class ChangesTest {
         due("a step to 199", x.step(5, 0), 199);
         x.apply(4, 2, 5);
         x.bind(5, 1, 5);
+        due("at rest behind a step to 200", x.ends(5, 0, 1), 1);
+        due("the most parts", x.most(5, 0, 1), 200);
+        due("a run to 200", x.run(5, 0, 9), 1);
+        x.undo();
         due("a step to 200", x.step(5, 0), 200);
         x.apply(4, 2, 5);
         x.bind(5, 1, 5);
@@ -213,6 +217,9 @@ public final class ChangesTest {
         due("a step to 201 by another order", x.step(5, 1), TOO_MANY);
         due("at rest by WEAK", x.step(5, 2), NOT_POSSIBLE);
         due("the stuck term", x.of(5, 0), 92);
+        due("a run to 201", x.run(5, 0, 9), 0);
+        due("its end", x.ends(5, 0, 9), -6);
+        due("its most parts", x.most(5, 0, 9), 92);
     }
 
     private static void run() {

@@ -36,7 +36,9 @@ public final class QuestionsTest {
         ofIs(x, 1, 11, 4, 3, 2, 2, 3, 1, 2, 2, NONE, 2);
         ofIs(x, 2, 11, 4, 3, 4, 0, 1, 2, 1, 1, 1, 0);
         ofIs(x, 3, 5, 2, 1, 1, 1, 2, 1, 1, 1, NONE, 0);
-        due("of changes nothing", x.count(3), 4);
+        x.apply(3, 3, 4);
+        ofIs(x, 4, 11, 4, 3, 2, 2, 2, 3, 0, 2, 0, 0);
+        due("of changes nothing", x.count(3), 5);
     }
 
     private static void nextIs(String text, int outer, int inner, int weak) {
@@ -77,6 +79,10 @@ public final class QuestionsTest {
         partIs(x, 7, 0, 0, 3, 8, 5);
         partIs(x, 8, 0, 2, 3, 9, 0);
         partIs(x, 9, 1, 5, 1, 10, NONE);
+        x.apply(0, 0, 1);
+        due("the number of an application that was made", x.part(1, 0, 1), 0);
+        x.bind(0, 5, 1);
+        due("the number of an L that was made", x.part(1, 0, 1), 0);
         for (int register : NO_REGISTERS) {
             due("part of register " + register, x.part(register, 0, 5), NO_SUCH);
         }
@@ -158,5 +164,7 @@ public final class QuestionsTest {
             x.copy(0, 0);
         }
         due("at most 6 changes", x.count(3), 6);
+        x.copy(5, 0);
+        due("register 0 not at rest", x.count(1), 0b011110);
     }
 }
