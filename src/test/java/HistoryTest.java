@@ -10,6 +10,7 @@ public final class HistoryTest {
         whatIsNoChange();
         slots();
         restoreAndUndo();
+        nothingElseTouchesThem();
         CHECK.finish();
     }
 
@@ -152,5 +153,33 @@ public final class HistoryTest {
         x.bind(0, 0, 0);
         due("the slot keeps what it had", x.restore(0), 8);
         holds(x, 0, "LL1");
+    }
+
+    private static void nothingElseTouchesThem() {
+        String[] texts = {"@L@00@L0b", "@L0c", "LL1", "@bc", "d", "L@0e"};
+        CountedTerms x = Check.with(texts);
+        x.save(0);
+        x.save(1);
+        x.copy(0, 0);
+        x.agree(0, 9);
+        x.alike(0, 1, 9);
+        x.most(0, 0, 9);
+        x.ends(1, 2, 9);
+        x.apply(2, 3, 4);
+        x.bind(5, 4, 3);
+        x.step(0, 0);
+        x.run(0, 1, 9);
+        for (int i = 0; i < 5; i++) {
+            x.undo();
+        }
+        for (int slot = 0; slot <= 2; slot++) {
+            for (int register = 0; register < 6; register++) {
+                holds(x, register, texts[register]);
+            }
+            for (int register = 0; register < 6; register++) {
+                x.copy(4, register);
+            }
+            x.restore(slot);
+        }
     }
 }
