@@ -1,18 +1,26 @@
 /** What the tests share: it compares answers, counts the wrong ones, and ends the test. */
 final class Check {
     private final String test;
+    private String sentence = "";
     private int compared;
+    private int comparedAhead = -1;
     private int wrong;
 
     Check(String test) {
         this.test = test;
     }
 
+    /** Names the sentence of the document by which the next answers are due; SentencesTest looks it up there. */
+    void sentence(String section, String words) {
+        endSentence();
+        sentence = " by " + section + ": " + words;
+    }
+
     void due(String call, long got, long want) {
         compared++;
         if (got != want) {
             wrong++;
-            System.out.println(test + ": " + call + " answered " + got + ", due is " + want);
+            System.out.println(test + ": " + call + " answered " + got + ", due is " + want + sentence);
         }
     }
 
@@ -20,11 +28,27 @@ final class Check {
         compared++;
         if (!got.equals(want)) {
             wrong++;
-            System.out.println(test + ": " + call + " told " + got + ", due is " + want);
+            System.out.println(test + ": " + call + " told " + got + ", due is " + want + sentence);
         }
     }
 
+    void holds(CountedTerms x, int register, String text) {
+        due("the term of " + register, text(x, register), text);
+    }
+
+    /** A sentence that no answer was compared by has not been tested. */
+    private void endSentence() {
+        if (comparedAhead == compared) {
+            wrong++;
+            System.out.println(test + ": nothing is due" + sentence);
+        }
+        comparedAhead = compared;
+    }
+
     void finish() {
+        if (!sentence.isEmpty()) {
+            endSentence();
+        }
         System.out.println(test + ": " + compared + " answers, " + wrong + " wrong");
         if (wrong != 0 || compared == 0) {
             System.exit(1);
@@ -91,5 +115,22 @@ final class Check {
         int applications = (parts - 1) / 2;
         String text = "@".repeat(applications) + "a".repeat(applications + 1);
         return parts % 2 == 1 ? text : "L" + text;
+    }
+
+    /** Puts so many L in front of a term that has no f: they bind nothing. */
+    static void deepen(CountedTerms x, int register, int times) {
+        for (int i = 0; i < times; i++) {
+            x.bind(register, 5, register);
+        }
+    }
+
+    /** A new object whose registers 2 to 5 have terms of 100, 99, 199 and 200 parts, all at rest. */
+    static CountedTerms withLongTerms() {
+        CountedTerms x = with(chain(49));
+        x.apply(0, 0, 3);
+        x.bind(3, 1, 2);
+        x.apply(3, 3, 4);
+        x.bind(4, 1, 5);
+        return x;
     }
 }
