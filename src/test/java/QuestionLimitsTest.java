@@ -135,6 +135,11 @@ public final class QuestionLimitsTest {
         due("no L around the first one", x.part(0, 0, 2), 0);
         due("the others around the last one", x.part(0, 9, 2), 9);
         due("all around the last part", x.part(0, 16, 2), 10);
+        x.apply(0, 0, 1);
+        due("an application that was made", x.part(1, 0, 1), 0);
+        x.bind(1, 5, 1);
+        due("an L that was made", x.part(1, 0, 1), 0);
+        due("a variable that was made", x.part(1, 18, 1), 10);
     }
 
     private static void behindParts() {

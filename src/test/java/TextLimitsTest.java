@@ -145,7 +145,7 @@ public final class TextLimitsTest {
     private static void faultsOfCodes() {
         CHECK.sentence("Terms", "\"L\", \"@\", a digit from 0 to 9 for a variable, a letter from a to f for a constant");
         for (int code = 33; code <= 126; code++) {
-            // It stands within ten L, as the only part or ahead of a constant, two, or none.
+            // Within ten L each digit may stand; behind an L or an @ the text ends too early.
             String text = "L".repeat(10) + (char) code;
             boolean whole = code >= 'a' && code <= 'f' || code >= '0' && code <= '9';
             boolean open = code == 'L' || code == '@';

@@ -287,7 +287,9 @@ public final class TrialLimitsTest {
         CHECK.sentence("Terms", "what would be; nothing changes.");
         String[] texts = {"@L@00@L0b", "@L@00L@00", "LL1", GROWS, "@L0c", "d"};
         CountedTerms x = Check.with(texts);
+        x.save(0);
         x.undo();
+        x.save(1);
         x.put('d');
         for (int register = 0; register <= 5; register++) {
             x.ends(register, register % 3, 200);
@@ -298,9 +300,17 @@ public final class TrialLimitsTest {
         due("changes", x.count(3), 5);
         due("the pad", x.count(2), 1);
         due("read it", x.read(5), 1);
+        holdEach(x, texts);
+        for (int slot = 0; slot <= 1; slot++) {
+            x.bind(5, 3, 5);
+            due("restore " + slot, x.restore(slot), 39);
+            holdEach(x, "@L@00@L0b", "@L@00L@00", "LL1", GROWS, "@L0c", slot == 0 ? "d" : "a");
+        }
+    }
+
+    private static void holdEach(CountedTerms x, String... texts) {
         for (int register = 0; register <= 5; register++) {
             CHECK.holds(x, register, texts[register]);
         }
-        due("no slot", x.restore(0), NOT_POSSIBLE);
     }
 }
