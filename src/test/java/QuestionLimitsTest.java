@@ -8,6 +8,7 @@ public final class QuestionLimitsTest {
         theSmallestTerm();
         theGreatestTerms();
         manyReduciblePlaces();
+        whereALongerTermWas();
         noneOfATerm();
         placesOfParts();
         whatOfAPart();
@@ -79,6 +80,32 @@ public final class QuestionLimitsTest {
         ofIs(x, 1, 199, 66, 66, 66, 1, 1, 66, 0, 195, 0, 0);
         x.bind(1, 0, 1);
         ofIs(x, 1, 200, 67, 66, 67, 0, 2, 66, 1, 196, NONE, 0);
+    }
+
+    /** What was behind the end of a term, and what was asked ahead of it, tells nothing about it. */
+    private static void whereALongerTermWas() {
+        CHECK.sentence("Promise 8", "Returns something about a term.");
+        String[] longer = {"@@L0bc", "@b@L0c", "L@b@L0c", "@@bc@L0d", "L@@bc@L0d", "LLLLLLLL@L8L0", "L@@L00@L@10L0"};
+        String[] shorter = {"b", "L0", "Lb", "@bc", "LL1", "@bLc", "@L0b", "L@0b", "@b@cd", "@L0L0"};
+        for (String ahead : longer) {
+            for (String text : shorter) {
+                CountedTerms x = Check.with(ahead, text, ahead);
+                x.copy(1, 0);
+                CountedTerms fresh = Check.with(text);
+                for (int what = 0; what <= 10; what++) {
+                    x.of(2, what);
+                    due("of " + text + " where " + ahead + " was, " + what, x.of(0, what), fresh.of(0, what));
+                }
+                for (int place = 0; place <= text.length(); place++) {
+                    for (int what = 0; what <= 4; what++) {
+                        x.part(2, 0, what);
+                        due("part " + place + " of " + text, x.part(0, place, what), fresh.part(0, place, what));
+                    }
+                }
+                CHECK.due(text + " with names", Check.names(x, 0), Check.names(fresh, 0));
+                due("the parts that both have", x.same(0, 1), 1);
+            }
+        }
     }
 
     private static void noneOfATerm() {
