@@ -336,8 +336,9 @@ public final class CountedTerms {
         survey.look(register);
         shelf.clear(DRAFT);
         shelf.append(DRAFT, FUNCTION, 0);
+        int length = shelf.length(register);
         int bound = 0;
-        for (int place = 0; place < shelf.length(register); place++) {
+        for (int place = 0; place < length; place++) {
             int kind = shelf.kind(register, place);
             int number = shelf.number(register, place);
             if (kind == CONSTANT && number == constant) {
